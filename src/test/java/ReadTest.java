@@ -130,6 +130,8 @@ public final class ReadTest {
         CHECK.fault("-1234567890.123456789", 4, 20);
         CHECK.fault("1.000000000000000000", 4, 19);
         CHECK.fault(".0000000000000000000", 4, 19);
+        // What has a 19th digit is no decimal yet that could be too fine.
+        CHECK.fault("0.1234567890123456789", 4, 19);
         CHECK.fault("123456789012345678.", 2, 19);
         CHECK.fault("123456789012345678.x", 3, 19);
         CHECK.fault("123456789012345678.0", 4, 19);
@@ -148,6 +150,7 @@ public final class ReadTest {
         CHECK.fault("\"a\\x\"", 5, 2);
         CHECK.fault("\"\\N\"", 5, 1);
         CHECK.fault("\"\\\u0001\"", 5, 1);
+        CHECK.fault("\"\\\u0000\"", 5, 1);
         CHECK.fault("\"a\nb\"", 3, 2);
         CHECK.fault("\"a\u001f\"", 3, 2);
         CHECK.fault("\"a\u007f\"", 3, 2);
@@ -166,6 +169,7 @@ public final class ReadTest {
     private static void languages() {
         CHECK.reads("\"a\"@en", 6, "\"a\"@en");
         CHECK.reads("\"A\"@EN-Us", 6, "\"A\"@en-us");
+        CHECK.reads("\"a\"@AZaz-AZ09", 6, "\"a\"@azaz-az09");
         CHECK.reads("\"\"@x-1-2b", 6, "\"\"@x-1-2b");
         CHECK.reads("\"a\"@abcdefgh-12345678", 6, "\"a\"@abcdefgh-12345678");
         CHECK.reads("\"a\"@abcdefgh-1234567-xyz", 6, "\"a\"@abcdefgh-1234567-xyz");
@@ -175,6 +179,7 @@ public final class ReadTest {
         CHECK.fault("\"a\"@ en", 3, 4);
         CHECK.fault("\"a\"@en1", 8, 6);
         CHECK.fault("\"a\"@abcdefgh1", 8, 12);
+        CHECK.fault("\"a\"@e ", 8, 5);
         CHECK.fault("\"a\"@en ", 8, 6);
         CHECK.fault("\"a\"@en_", 8, 6);
         CHECK.fault("\"a\"@en-", 2, 7);
@@ -222,6 +227,7 @@ public final class ReadTest {
         CHECK.fault("\"a\"^^<text>b", 8, 11);
         CHECK.fault("\"1\"^^<whole>1", 8, 12);
         CHECK.fault("\"1\"^^<whole", 2, 11);
+        CHECK.fault("\"x\"^^<whole", 2, 11);
         for (String text : new String[] {"", "a", "1.0", "1 ", " 1", "1x", "true", "1\\n", "+", "\\\"1\\\"^^<whole>",
             "1000000000000000000", "_:a", "<a>"}) {
             CHECK.fault("\"" + text + "\"^^<whole>", 7, 0);
