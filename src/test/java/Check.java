@@ -3,6 +3,7 @@ import java.nio.charset.StandardCharsets;
 /** Counts the answers that are not as due; each test has one of its own. */
 final class Check {
     private final String test;
+    private String sentence = "";
     private int looked = 0;
     private int wrong = 0;
 
@@ -10,19 +11,20 @@ final class Check {
         this.test = test;
     }
 
+    /** What is looked at from here on stands for this sentence of the document. */
+    void sentence(String words) {
+        sentence = " [" + words + "]";
+    }
+
     void due(String call, long got, long want) {
-        looked++;
-        if (got != want) {
-            wrong++;
-            System.out.println(test + ": " + call + " answered " + got + ", due is " + want);
-        }
+        due(call, Long.toString(got), Long.toString(want));
     }
 
     void due(String call, String got, String want) {
         looked++;
         if (!got.equals(want)) {
             wrong++;
-            System.out.println(test + ": " + call + " answered " + got + ", due is " + want);
+            System.out.println(test + ": " + call + " answered " + got + ", due is " + want + sentence);
         }
     }
 
