@@ -184,6 +184,8 @@ public final class FaultBoundaryTest {
         CHECK.due("the tape is empty then", x.type('3', 1), 1);
         CHECK.due("read of what is there", x.read(), 3);
         CHECK.due("find of none", Check.find(x, "false"), TermTable.NO);
+        CHECK.due("kind(2000)", x.kind(2000), 4);
+        CHECK.due("kind(2001)", x.kind(2001), TermTable.BAD);
         CHECK.due("count", x.count(), 2000);
         CHECK.due("used", x.used(), 4);
     }
