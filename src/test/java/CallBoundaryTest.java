@@ -34,6 +34,7 @@ public final class CallBoundaryTest {
         orderNone();
         orderOfRows();
         orderOfNumbers();
+        orderWhereLongsWrap();
         orderOfTexts();
         sameErrors();
         sameOfSorts();
@@ -495,6 +496,16 @@ public final class CallBoundaryTest {
         CHECK.due("order of most and its 10th", x.order(x.decimal(MOST, 0), x.decimal(MOST, 1)), 1);
         CHECK.due("order of neighbours", x.order(x.decimal(MOST - 1, 9), x.decimal(MOST, 9)), -1);
         CHECK.due("order of neighbours below 0", x.order(x.decimal(1 - MOST, 9), x.decimal(-MOST, 9)), 1);
+    }
+
+    private static void orderWhereLongsWrap() {
+        CHECK.sentence("numbers by value, a whole before a decimal");
+        // In billionths, or in a few times as many, a long wraps around between the .1 and the .9 of each of these.
+        long[] wholes = {9223372036L, 27670116110L, 4611686018L, 13835058055L, 19471563189L, 29719754341L, 10248191151L, 30744573455L};
+        for (long whole : wholes) {
+            rising(whole + "", whole + ".0", whole + ".1", whole + ".9", whole + 1 + "", whole + 1 + ".0");
+            rising("-" + (whole + 1), "-" + (whole + 1) + ".0", "-" + whole + ".9", "-" + whole + ".1", "-" + whole, "-" + whole + ".0");
+        }
     }
 
     private static void orderOfTexts() {
