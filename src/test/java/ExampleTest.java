@@ -45,6 +45,8 @@ public final class ExampleTest {
         CHECK.fault("\"\"@aaaaaaaa-aaaaaaaa-aa-", 4, 23);
         CHECK.fault("\"\"@aaaaaaaa-aaaaaaaa-a-!", 4, 23);
         CHECK.fault("\"\"@aaaaaaaa1", 8, 11);
+        CHECK.fault("_:" + "b".repeat(60) + "_", 4, 62);
+        CHECK.fault("_:" + "b".repeat(60) + "-", 8, 62);
         CHECK.fault("truex", 3, 4);
         CHECK.fault("true-", 8, 4);
         CHECK.fault("\"5\"^^<decimal>", 7, 0);
